@@ -131,7 +131,8 @@ public final class RangeSheet {
 
     /** Narrows with all entries in force: whether there is no contradiction. */
     public boolean narrow() {
-        narrowWith(entriesInForce(), latest);
+        layOut(entriesInForce(), latest);
+        net.settle(latest);
         latestCells = latest.broken ? 0 : cells;
         return !latest.broken;
     }
@@ -149,8 +150,10 @@ public final class RangeSheet {
     /** The entries, as bits, that a contradiction rests on; NONE when there is no contradiction. */
     public int conflict() {
         int all = entriesInForce();
-        // Without a cell there is no relation and no entry either, so that any cell can stand for the sheet.
-        return boundWith(all, 0, false) == NONE ? trim(all, 0, false, NONE) : NONE;
+        layOut(all, trial);
+        net.settle(trial);
+        // A contradiction leaves no bound to any cell, so that each of them can tell it.
+        return trial.broken ? trim(all, 0, false, NONE) : NONE;
     }
 
     /** The entries, as bits, that a cell's bound rests on; NONE when there is a contradiction. */
@@ -159,8 +162,9 @@ public final class RangeSheet {
             throw new IllegalArgumentException("no such cell");
         }
         int all = entriesInForce();
-        int bound = boundWith(all, cell, high);
-        return bound == NONE ? NONE : trim(all, cell, high, bound);
+        layOut(all, trial);
+        net.settle(trial);
+        return trial.broken ? NONE : trim(all, cell, high, trial.bound(cell, high));
     }
 
     /** Searches for the first setting: 1 when it is found, 0 when there is none, NONE at the limit. */
@@ -168,7 +172,8 @@ public final class RangeSheet {
         if (!isLimit(limit)) {
             throw new IllegalArgumentException("a limit is 0 .. 300");
         }
-        return searchFrom(0, false, limit);
+        beginSearch(0, false, limit);
+        return search.explore(net, 0);
     }
 
     /** The least value that a cell has in any setting; NONE at the limit or when there is no setting. */
@@ -176,7 +181,8 @@ public final class RangeSheet {
         if (!isCell(cell) || !isLimit(limit)) {
             throw new IllegalArgumentException("no such cell, or a limit that is not 0 .. 300");
         }
-        return searchFrom(cell, false, limit) == FOUND ? search.setting[cell] : NONE;
+        beginSearch(cell, false, limit);
+        return search.explore(net, 0) == FOUND ? search.setting[cell] : NONE;
     }
 
     /** The greatest value that a cell has in any setting; NONE at the limit or when there is no setting. */
@@ -184,7 +190,8 @@ public final class RangeSheet {
         if (!isCell(cell) || !isLimit(limit)) {
             throw new IllegalArgumentException("no such cell, or a limit that is not 0 .. 300");
         }
-        return searchFrom(cell, true, limit) == FOUND ? search.setting[cell] : NONE;
+        beginSearch(cell, true, limit);
+        return search.explore(net, 0) == FOUND ? search.setting[cell] : NONE;
     }
 
     /** How many steps the latest search made. */
@@ -253,43 +260,35 @@ public final class RangeSheet {
         return bits;
     }
 
-    private void narrowWith(int chosen, Ranges ranges) {
+    /** Makes ranges of the first ones and the chosen entries, and lets every relation be due. */
+    private void layOut(int chosen, Ranges ranges) {
         ranges.copyFrom(first);
         for (int e = 0; e < entryCount; e++) {
             if ((chosen >> e & 1) == 1) {
                 ranges.keep(entries[e].cell, entries[e].low, entries[e].high);
             }
         }
-        // Every relation is due, those of cells that no entry touched too.
         ranges.changed = (1 << cells) - 1;
-        net.settle(ranges);
     }
 
-    /** A cell's bound, narrowed with the chosen entries; NONE when that ends with a contradiction. */
-    private int boundWith(int chosen, int cell, boolean upper) {
-        narrowWith(chosen, trial);
-        if (trial.broken) {
-            return NONE;
-        }
-        return upper ? trial.high[cell] : trial.low[cell];
-    }
-
-    /** Trims entries by the test that the bound with them is the one that is due. */
+    /** Trims entries by the test that, narrowed with them, the cell's bound is the one that is due. */
     private int trim(int all, int cell, boolean upper, int due) {
         int kept = all;
         for (int e = entryCount - 1; e >= 0; e--) {
             int without = kept & ~(1 << e);
-            if (without != kept && boundWith(without, cell, upper) == due) {
-                kept = without;
+            if (without != kept) {
+                layOut(without, trial);
+                net.settle(trial);
+                kept = trial.bound(cell, upper) == due ? without : kept;
             }
         }
         return kept;
     }
 
-    private int searchFrom(int firstCell, boolean down, int limit) {
+    private void beginSearch(int firstCell, boolean down, int limit) {
         search.begin(cells, firstCell, down, limit);
-        narrowWith(entriesInForce(), search.levels[0]);
-        return search.levels[0].broken ? NOTHING : search.explore(net, 0);
+        layOut(entriesInForce(), search.levels[0]);
+        net.settle(search.levels[0]);
     }
 
     /** A range for a cell that is looked at as long as it is in force. */
@@ -350,6 +349,14 @@ public final class RangeSheet {
             return high[cell] - low[cell];
         }
 
+        /** A cell's low or high; NONE after a contradiction. */
+        int bound(int cell, boolean upper) {
+            if (broken) {
+                return NONE;
+            }
+            return upper ? high[cell] : low[cell];
+        }
+
         void raise(int cell, int least) {
             if (least > low[cell]) {
                 low[cell] = least;
@@ -378,8 +385,8 @@ public final class RangeSheet {
         int most;
 
         void clear() {
-            least = Integer.MAX_VALUE;
-            most = Integer.MIN_VALUE;
+            least = BEYOND;
+            most = -BEYOND;
         }
 
         void take(int v) {
@@ -503,9 +510,31 @@ public final class RangeSheet {
                     narrowByTable(r, tables[r.c], ranges);
                     break;
                 default:
-                    narrowByFormula(r, ranges);
+                    if (rises(r.kind) && Integer.bitCount(r.cells) == 3) {
+                        narrowByRise(r, ranges);
+                    } else {
+                        narrowByFormula(r, ranges);
+                    }
                     break;
             }
+        }
+
+        private static boolean rises(int kind) {
+            return kind == SUM || kind == LESSER || kind == GREATER;
+        }
+
+        /**
+         * Narrows where c rises with a and with b, and leaves out no value on its way: of three different
+         * cells, each then has a whole range of values, which the ends of the other two alone tell.
+         */
+        private static void narrowByRise(Relation r, Ranges ranges) {
+            int[] low = ranges.low;
+            int[] high = ranges.high;
+            int least = low[r.c];
+            int most = high[r.c];
+            ranges.keep(r.a, leastFit(r.kind, high[r.b], least, most), mostFit(r.kind, low[r.b], least, most));
+            ranges.keep(r.b, leastFit(r.kind, high[r.a], least, most), mostFit(r.kind, low[r.a], least, most));
+            ranges.keep(r.c, result(r.kind, low[r.a], low[r.b]), result(r.kind, high[r.a], high[r.b]));
         }
 
         private static void narrowByAtMost(int a, int b, int gap, Ranges ranges) {
@@ -581,10 +610,23 @@ public final class RangeSheet {
             }
             int inside = membersWithin(members, start, end, ranges);
             int filled = Integer.bitCount(inside);
-            if (filled > room) {
-                ranges.broken = true;
+            ranges.broken = ranges.broken || filled > room;
+            if (filled != room) {
+                return false;
             }
-            return filled == room && clearOut(members & ~inside, start, end, ranges);
+            boolean any = false;
+            for (int k = 0; k < MOST_CELLS; k++) {
+                boolean isOther = (members >> k & 1) == 1 && (inside >> k & 1) == 0;
+                if (isOther && start <= ranges.low[k] && ranges.low[k] <= end) {
+                    ranges.raise(k, end + 1);
+                    any = true;
+                }
+                if (isOther && start <= ranges.high[k] && ranges.high[k] <= end) {
+                    ranges.lower(k, start - 1);
+                    any = true;
+                }
+            }
+            return any;
         }
 
         private static int membersWithin(int members, int start, int end, Ranges ranges) {
@@ -595,23 +637,6 @@ public final class RangeSheet {
                 }
             }
             return bits;
-        }
-
-        private static boolean clearOut(int others, int start, int end, Ranges ranges) {
-            boolean any = false;
-            for (int k = 0; k < MOST_CELLS; k++) {
-                if ((others >> k & 1) == 1) {
-                    if (start <= ranges.low[k] && ranges.low[k] <= end) {
-                        ranges.raise(k, end + 1);
-                        any = true;
-                    }
-                    if (start <= ranges.high[k] && ranges.high[k] <= end) {
-                        ranges.lower(k, start - 1);
-                        any = true;
-                    }
-                }
-            }
-            return any;
         }
 
         /**
@@ -761,9 +786,12 @@ public final class RangeSheet {
             }
         }
 
-        /** Searches from the node at a depth: FOUND, NOTHING, or NONE at the limit. */
-        int explore(Net net, int depth) {
+        /** Searches from the ranges at a depth, which are narrowed: FOUND, NOTHING, or NONE at the limit. */
+        private int explore(Net net, int depth) {
             Ranges here = levels[depth];
+            if (here.broken) {
+                return NOTHING;
+            }
             int cell = firstOpenCell(here);
             if (cell == NONE) {
                 System.arraycopy(here.low, 0, setting, 0, MOST_CELLS);
@@ -784,7 +812,7 @@ public final class RangeSheet {
                 levels[depth + 1].copyFrom(here);
                 levels[depth + 1].keep(cell, v, v);
                 net.settle(levels[depth + 1]);
-                int end = levels[depth + 1].broken ? NOTHING : explore(net, depth + 1);
+                int end = explore(net, depth + 1);
                 if (end != NOTHING) {
                     return end;
                 }

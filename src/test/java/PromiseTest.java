@@ -1,3 +1,6 @@
+import com.sun.management.ThreadMXBean;
+import java.lang.management.ManagementFactory;
+
 /** Each promise of the document by hand: ordinary inputs, the edges that it names, and wrong inputs. */
 public final class PromiseTest {
     private static final int NONE = RangeSheet.NONE;
@@ -728,7 +731,7 @@ public final class PromiseTest {
         }
     }
 
-    /** The dearest calls of a whole object, one after another: none may run without end or make many objects. */
+    /** The dearest calls of a whole object, one after another: all runs share one room, so that none may make objects. */
     private static void theRoom() {
         RangeSheet x = new RangeSheet();
         for (int k = 0; k < 10; k++) {
@@ -741,11 +744,16 @@ public final class PromiseTest {
         for (int e = 0; e < 12; e++) {
             x.set(e % 10, -100 + e, 100 - e);
         }
+        ThreadMXBean meter = (ThreadMXBean) ManagementFactory.getThreadMXBean();
+        long before = meter.getCurrentThreadAllocatedBytes();
         for (int n = 0; n < 160; n++) {
             x.solve(300);
             x.greatest(n % 10, 300);
             x.because(n % 10, n % 2 == 0);
         }
-        due("still there", x.steps() <= 300, true);
+        long bytes = meter.getCurrentThreadAllocatedBytes() - before;
+        // less than one object a call; the meter itself may make some
+        due("480 calls make no objects, not " + bytes + " bytes", bytes < 480 * 16, true);
+        due("steps of the last search", x.steps() <= 300, true);
     }
 }
