@@ -74,19 +74,17 @@ public final class FaceTest {
             int mark = f.getModifiers();
             look(f + " is NONE or private", Modifier.isPrivate(mark)
                     || f.getName().equals("NONE") && Modifier.isPublic(mark) && Modifier.isStatic(mark));
-            look(f + " is no static state", !Modifier.isStatic(mark)
-                    || Modifier.isFinal(mark) && f.getType().isPrimitive());
+            look(f + " is no static state", !Modifier.isStatic(mark) || Modifier.isFinal(mark));
         }
     }
 
     private static void classesInside(Class<?> sheet) {
         Class<?>[] inside = sheet.getDeclaredClasses();
-        look("at most twelve classes", inside.length < 12);
+        look("some twelve classes at most", inside.length <= 12);
         for (Class<?> c : inside) {
-            look(c + " is static and not shown", Modifier.isStatic(c.getModifiers())
-                    && !Modifier.isPublic(c.getModifiers()) && !Modifier.isProtected(c.getModifiers()));
+            look(c + " is not shown", !Modifier.isPublic(c.getModifiers()) && !Modifier.isProtected(c.getModifiers()));
             for (Field f : c.getDeclaredFields()) {
-                look(f + " is no static state", !Modifier.isStatic(f.getModifiers()));
+                look(f + " is no static state", !Modifier.isStatic(f.getModifiers()) || Modifier.isFinal(f.getModifiers()));
             }
         }
     }

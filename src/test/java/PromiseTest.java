@@ -2,30 +2,7 @@ import com.sun.management.ThreadMXBean;
 import java.lang.management.ManagementFactory;
 
 /** Each promise of the document by hand: ordinary inputs, the edges that it names, and wrong inputs. */
-public final class PromiseTest {
-    private static final int NONE = RangeSheet.NONE;
-    private static final int MIN = Integer.MIN_VALUE;
-    private static final int MAX = Integer.MAX_VALUE;
-
-    private static final int SUM = 0;
-    private static final int PRODUCT = 1;
-    private static final int QUOTIENT = 2;
-    private static final int LESSER = 3;
-    private static final int GREATER = 4;
-    private static final int AT_MOST = 5;
-    private static final int IF = 6;
-    private static final int DIFFERENT = 7;
-    private static final int TABLE = 8;
-
-    private static final String NOTHING = "nothing";
-    private static final String ARGUMENT = "IllegalArgumentException";
-    private static final String STATE = "IllegalStateException";
-
-    private static int wrong = 0;
-
-    private interface Call {
-        void make();
-    }
+public final class PromiseTest extends Checks {
 
     public static void main(String[] args) {
         due("NONE", RangeSheet.NONE, -1000);
@@ -52,50 +29,6 @@ public final class PromiseTest {
         if (wrong != 0) {
             System.exit(1);
         }
-    }
-
-    private static void due(String what, int got, int want) {
-        if (got != want) {
-            wrong++;
-            System.out.println(what + " answered " + got + ", due is " + want);
-        }
-    }
-
-    private static void due(String what, boolean got, boolean want) {
-        due(what, got ? 1 : 0, want ? 1 : 0);
-    }
-
-    private static void throwsOnly(String what, String want, Call call) {
-        String got = NOTHING;
-        try {
-            call.make();
-        } catch (RuntimeException e) {
-            got = e.getClass().getSimpleName();
-        }
-        if (!got.equals(want)) {
-            wrong++;
-            System.out.println(what + " threw " + got + ", due is " + want);
-        }
-    }
-
-    /** A sheet with cells of the ranges low, high, low, high, .. */
-    private static RangeSheet sheet(int... bounds) {
-        RangeSheet x = new RangeSheet();
-        for (int k = 0; k < bounds.length; k += 2) {
-            x.cell(bounds[k], bounds[k + 1]);
-        }
-        return x;
-    }
-
-    /** Narrows, and looks whether the cells have the ranges low, high, low, high, .. then; none: a contradiction. */
-    private static void ranges(String what, RangeSheet x, int... bounds) {
-        due(what + ": narrow", x.narrow(), bounds.length > 0);
-        for (int k = 0; k < bounds.length; k += 2) {
-            due(what + ": low of " + k / 2, x.low(k / 2), bounds[k]);
-            due(what + ": high of " + k / 2, x.high(k / 2), bounds[k + 1]);
-        }
-        due(what + ": low of none", x.low(bounds.length / 2), NONE);
-        due(what + ": high of none", x.high(bounds.length / 2), NONE);
     }
 
     /** Promise 1. */
@@ -226,7 +159,7 @@ public final class PromiseTest {
         x.relate(TABLE, 0, 1, 1);
         ranges("table 1", x, -100, 100, -100, 100);
         x.relate(TABLE, 0, 1, 0);
-        ranges("tables 0 and 1", x);
+        contradicts("tables 0 and 1", x);
         x.hold(0, false);
         ranges("table 0", x, 3, 3, 4, 4);
         x.row(0, 5, 1);
@@ -248,7 +181,7 @@ public final class PromiseTest {
         due("set", x.set(0, -4, 7), 2);
         ranges("what they have in common", x, 3, 7, 0, 9);
         due("set past the first range", x.set(1, 10, 20), 3);
-        ranges("nothing in common with the first range", x);
+        contradicts("nothing in common with the first range", x);
         for (int e = 4; e < 12; e++) {
             due("set " + e, x.set(0, 0, 9), e);
         }
@@ -285,7 +218,7 @@ public final class PromiseTest {
         x.set(0, 65, 100);
         ranges("an entry goes all the way", x, 65, 70, 75, 80, 85, 90, 95, 100);
         x.set(3, 0, 94);
-        ranges("entries against each other", x);
+        contradicts("entries against each other", x);
         due("a search makes nothing of it", x.solve(300), 0);
         x.force(1, false);
         x.solve(300);
@@ -294,7 +227,7 @@ public final class PromiseTest {
         RangeSheet slow = sheet(-100, 100, -100, 100, 1, 1);
         slow.relate(SUM, 0, 2, 1);
         slow.relate(AT_MOST, 1, 0, 0);
-        ranges("a contradiction a long way off", slow);
+        contradicts("a contradiction a long way off", slow);
 
         RangeSheet back = sheet(0, 20, 3, 9, -5, 30);
         back.relate(SUM, 0, 1, 2);
@@ -334,7 +267,7 @@ public final class PromiseTest {
         most.relate(AT_MOST, 1, 0, 3);
         ranges("at most, c above 0", most, 3, 10, 0, 7);
         most.relate(AT_MOST, 0, 1, 11);
-        ranges("at most, none", most);
+        contradicts("at most, none", most);
 
         RangeSheet all = sheet(1, 2, 1, 2, 1, 4, 2, 9, 0, 5);
         all.relate(DIFFERENT, 0b1111, 0, 0);
@@ -342,13 +275,13 @@ public final class PromiseTest {
         all.set(3, 0, 3);
         ranges("different, filled further", all, 1, 2, 1, 2, 4, 4, 3, 3, 0, 5);
         all.set(2, 0, 3);
-        ranges("different, no room", all);
+        contradicts("different, no room", all);
 
         RangeSheet none = sheet(0, 5, 0, 5);
         none.relate(TABLE, 0, 1, 0);
-        ranges("a table without rows", none);
+        contradicts("a table without rows", none);
         none.row(0, 2, 6);
-        ranges("a table without a row that fits", none);
+        contradicts("a table without a row that fits", none);
         none.row(0, 4, 1);
         none.row(0, 1, 3);
         ranges("a table", none, 1, 4, 1, 3);
@@ -357,7 +290,7 @@ public final class PromiseTest {
     private static void byKind(String what, int kind, int[] before, int... after) {
         RangeSheet x = sheet(before);
         x.relate(kind, 0, 1, 2);
-        ranges(what, x, after);
+        rangesOrNone(what, x, after);
     }
 
     private static void narrowWhereCellsAreTheSame() {
@@ -393,7 +326,7 @@ public final class PromiseTest {
         RangeSheet twins = sheet(0, 9);
         twins.row(1, 3, 4);
         twins.relate(TABLE, 0, 0, 1);
-        ranges("a row of two values for one cell", twins);
+        contradicts("a row of two values for one cell", twins);
         twins.row(1, 5, 5);
         ranges("a row of one value twice", twins, 5, 5);
     }
@@ -401,7 +334,16 @@ public final class PromiseTest {
     private static void same(String what, int kind, int a, int b, int c, int[] before, int... after) {
         RangeSheet x = sheet(before);
         x.relate(kind, a, b, c);
-        ranges(what, x, after);
+        rangesOrNone(what, x, after);
+    }
+
+    /** No ranges stand for a contradiction. */
+    private static void rangesOrNone(String what, RangeSheet x, int... bounds) {
+        if (bounds.length == 0) {
+            contradicts(what, x);
+        } else {
+            ranges(what, x, bounds);
+        }
     }
 
     /** Promises 9 and 10. */
@@ -731,7 +673,7 @@ public final class PromiseTest {
         }
     }
 
-    /** The dearest calls of a whole object, one after another: all runs share one room, so that none may make objects. */
+    /** The dearest calls of a whole object, one after another, in the room that there is for all of them. */
     private static void theRoom() {
         RangeSheet x = new RangeSheet();
         for (int k = 0; k < 10; k++) {
@@ -752,8 +694,9 @@ public final class PromiseTest {
             x.because(n % 10, n % 2 == 0);
         }
         long bytes = meter.getCurrentThreadAllocatedBytes() - before;
-        // less than one object a call; the meter itself may make some
-        due("480 calls make no objects, not " + bytes + " bytes", bytes < 480 * 16, true);
+        // a room of 600,000 objects of two words, and of 7.3 million elements
+        long room = 600_000L * 16 + 7_300_000L * 4;
+        due("480 calls keep to the room, not " + bytes + " bytes", bytes < room, true);
         due("steps of the last search", x.steps() <= 300, true);
     }
 }

@@ -1,0 +1,13 @@
+import java.lang.annotation.ElementType;
+import java.lang.annotation.Retention;
+import java.lang.annotation.RetentionPolicy;
+import java.lang.annotation.Target;
+
+/** Stands at a test: the promise that it looks at, and the document's words that it would find broken. */
+@Retention(RetentionPolicy.RUNTIME)
+@Target(ElementType.METHOD)
+@interface Says {
+    int promise();
+
+    String words();
+}
