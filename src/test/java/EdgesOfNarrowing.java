@@ -237,6 +237,8 @@ final class EdgesOfNarrowing extends Checks {
         ranges("a / a = c", related(QUOTIENT, 0, 0, 1, 0, 100, -100, 100), 1, 100, 1, 1);
         contradicts("a / a = 2", related(QUOTIENT, 0, 0, 1, -100, 100, 2, 100));
         ranges("a / b = a, b above 1", related(QUOTIENT, 0, 1, 0, -100, 100, 2, 100), -1, 0, 2, 100);
+        ranges("a / 2 = a", related(QUOTIENT, 0, 1, 0, -100, 100, 2, 2), -1, 0, 2, 2);
+        ranges("a / -1 = a", related(QUOTIENT, 0, 1, 0, -100, 100, -1, -1), 0, 0, -1, -1);
         ranges("a / b = a, b below 0", related(QUOTIENT, 0, 1, 0, -100, 100, -100, -1), 0, 0, -100, -1);
         ranges("a / b = a, b to 1", related(QUOTIENT, 0, 1, 0, -100, 100, 0, 1), -100, 100, 1, 1);
         ranges("a / b = a, a above 0", related(QUOTIENT, 0, 1, 0, 1, 100, -100, 100), 1, 100, 1, 1);
@@ -304,6 +306,7 @@ final class EdgesOfNarrowing extends Checks {
         ranges("a of 100", related(IF, 0, 1, 2, 100, 100, 0, 9, -5, 5), 100, 100, 0, 5, 0, 5);
         ranges("a of 0 or 1", related(IF, 0, 1, 2, 0, 1, 0, 9, -5, 5), 0, 1, 0, 9, -5, 5);
         ranges("b can be c", related(IF, 0, 1, 2, 0, 9, 5, 9, 0, 5), 0, 9, 5, 9, 0, 5);
+        ranges("a goes above b and c", related(IF, 0, 1, 2, 0, 9, 0, 3, 0, 5), 0, 9, 0, 3, 0, 5);
         ranges("b must be c", related(IF, 0, 1, 2, 1, 9, 5, 9, 0, 5), 1, 9, 5, 5, 5, 5);
         ranges("b is above c", related(IF, 0, 1, 2, -4, 9, 6, 9, 0, 5), -4, 0, 6, 9, 0, 5);
         contradicts("b is above c, a of 1", related(IF, 0, 1, 2, 1, 9, 6, 9, 0, 5));
@@ -333,8 +336,30 @@ final class EdgesOfNarrowing extends Checks {
         ranges("two fill a range", related(DIFFERENT, 0b111, 0, 0, 5, 6, 5, 6, 4, 6), 5, 6, 5, 6, 4, 4);
         ranges("two fill the middle", related(DIFFERENT, 0b111, 0, 0, 5, 6, 5, 6, 4, 7), 5, 6, 5, 6, 4, 7);
         contradicts("three in two values", related(DIFFERENT, 0b111, 0, 0, 5, 6, 5, 6, 5, 6));
+        ranges("three fill 1 to 3, the fourth starts within",
+                related(DIFFERENT, 0b1111, 0, 0, 1, 3, 1, 3, 1, 3, 2, 9), 1, 3, 1, 3, 1, 3, 4, 9);
+        ranges("three fill 1 to 3, the fourth ends within",
+                related(DIFFERENT, 0b1111, 0, 0, -5, 2, 1, 3, 1, 3, 1, 3), -5, 0, 1, 3, 1, 3, 1, 3);
         ranges("three fill a range none fills alone",
                 related(DIFFERENT, 0b1111, 0, 0, 1, 2, 2, 3, 1, 3, 1, 9), 1, 2, 2, 3, 1, 3, 4, 9);
+    }
+
+    @Says(promise = 8, words = "a FIRST RANGE low .. high within -100 .. 100 (the outermost values of each kind)")
+    static void everyKindAtTheOutermostValues() {
+        ranges("product of 100", related(PRODUCT, 0, 1, 2, -100, 100, 100, 100, -100, 100), -1, 1, 100, 100, -100, 100);
+        ranges("product of -100", related(PRODUCT, 0, 1, 2, -100, 100, -100, -100, -100, 100), -1, 1, -100, -100, -100, 100);
+        ranges("quotient of 100", related(QUOTIENT, 0, 1, 2, -100, 100, -100, 100, 100, 100), -100, 100, -1, 1, 100, 100);
+        ranges("quotient of -100", related(QUOTIENT, 0, 1, 2, -100, 100, -100, 100, -100, -100), -100, 100, -1, 1, -100, -100);
+        ranges("lesser of 100", related(LESSER, 0, 1, 2, -100, 100, -100, 100, 100, 100), 100, 100, 100, 100, 100, 100);
+        ranges("lesser of -100", related(LESSER, 0, 1, 2, -100, 100, -100, 100, -100, -100), -100, 100, -100, 100, -100, -100);
+        ranges("greater of 100", related(GREATER, 0, 1, 2, -100, 100, -100, 100, 100, 100), -100, 100, -100, 100, 100, 100);
+        ranges("greater of -100", related(GREATER, 0, 1, 2, -100, 100, -100, 100, -100, -100), -100, -100, -100, -100, -100, -100);
+        ranges("if b of 100", related(IF, 0, 1, 2, 100, 100, 100, 100, -100, 100), 100, 100, 100, 100, 100, 100);
+        ranges("if c of -100", related(IF, 0, 1, 2, 100, 100, -100, 100, -100, -100), 100, 100, -100, -100, -100, -100);
+        ranges("different from 100", related(DIFFERENT, 0b11, 0, 0, 100, 100, 99, 100), 100, 100, 99, 99);
+        ranges("different from -100", related(DIFFERENT, 0b11, 0, 0, -100, -100, -100, -99), -100, -100, -99, -99);
+        contradicts("no three of 99 and 100", related(DIFFERENT, 0b111, 0, 0, 99, 100, 99, 100, 99, 100));
+        contradicts("no three of -100 and -99", related(DIFFERENT, 0b111, 0, 0, -100, -99, -100, -99, -100, -99));
     }
 
     @Says(promise = 8, words = "7 DIFFERENT: of all cells whose bit is 1 in a number a (bit k of cell k)")

@@ -246,6 +246,20 @@ final class EdgesOfSearching extends Checks {
         values("setting", x, 4, 0, 0);
     }
 
+    @Says(promise = 13, words = "the ranges with just that value for it are narrowed by relations; this is a STEP")
+    static void aStepNarrowsByAllRelations() {
+        RangeSheet x = sheetOf(10, 0, 1);
+        for (int k = 8; k >= 0; k--) {
+            x.relate(DIFFERENT, 3 << k, 0, 0);
+        }
+        due("one step tells all cells", x.solve(1), 1);
+        due("steps", x.steps(), 1);
+        values("setting", x, 0, 1, 0, 1, 0, 1, 0, 1, 0, 1);
+        due("from the last cell down", x.greatest(9, 1), 1);
+        due("from the last cell up", x.least(9, 1), 0);
+        values("setting", x, 1, 0, 1, 0, 1, 0, 1, 0, 1, 0);
+    }
+
     @Says(promise = 13, words = "with all entries in force")
     static void solveWithEntriesInForce() {
         RangeSheet x = sheet(0, 9, 0, 9);
